@@ -471,6 +471,8 @@ public final class PromiseTest {
     due("multiply(0, 1, 2)", 4, () -> x.multiply(0, 1, 2));
     due("isSame(2, 3)", true, () -> x.isSame(2, 3));
     due("isSolvable(0, 3, 0, 0)", true, () -> x.isSolvable(0, 3, 0, 0));
+    x.make(1, 1, 1);
+    due("solve(1, 1, 0, 1)", 0, () -> x.solve(1, 1, 0, 1));
     due("solve(0, 3, 0, 3): great", -9, () -> x.solve(0, 3, 0, 3));
     sown(0, 4, 4, SEED_OF_GREAT_STEPS, 20);
     set(3, "0/0/0/0");
@@ -561,6 +563,7 @@ public final class PromiseTest {
     due("minor(0, 3, 5)", 5, () -> x.minor(0, 3, 5));
     due("minor(0, 1, 4)", -3, () -> x.minor(0, 1, 4));
     due("minor(0, 4, 2)", 4, () -> x.minor(0, 4, 2));
+    due("minor(0, 2, 1)", 3, () -> x.minor(0, 2, 1));
     due("minor(0, 6, 3)", 37, () -> x.minor(0, 6, 3));
     due("minor(0, 3, 1)", ARGUMENT, () -> x.minor(0, 3, 1));
     due("minor(0, 0, 0)", ARGUMENT, () -> x.minor(0, 0, 0));
@@ -643,6 +646,11 @@ public final class PromiseTest {
     set(0, "3 1/-2 1/2 0");
     form(0, "1 0/0 1/0 0");
     form(1, "1 -1 -2/0 1 1/-2 2 5");
+    set(0, "1/1");
+    form(1, "1 0/-1 1");
+    set(0, "0 2/2 0");
+    form(3, "1 0/0 1");
+    form(4, "0 1/1 0");
     // 0s ahead: the columns without a number are left out.
     set(0, "0 0 2 7/0 0 0 3");
     form(0, "0 0 2 1/0 0 0 3");
