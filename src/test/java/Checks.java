@@ -36,6 +36,10 @@ final class Checks {
     return wrong;
   }
 
+  int looked() {
+    return looked;
+  }
+
   void end() {
     System.out.println(looked + " answers looked at, " + wrong + " not as due");
     if (wrong != 0 || looked == 0) {
