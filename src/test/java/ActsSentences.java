@@ -492,6 +492,53 @@ final class ActsSentences extends Sentences {
     is(0, "1 2 0/4 5 0/0 0 0");
   }
 
+  private void full() {
+    set(0, "9 9 9 9/9 9 9 9/9 9 9 9/9 9 9 9");
+  }
+
+  private void widened(String behind, String want) {
+    x.widen(0, false);
+    x.widen(0, true);
+    due("text(0) behind " + behind + " and widen()", want, () -> x.text(0));
+  }
+
+  @Says(at = "Promise 12: widen", words = "A ROW of 0s comes behind all others, or a COLUMN of 0s.")
+  void widenBehindEachActThatLeavesFewer() {
+    full();
+    x.make(0, 2, 2);
+    widened("make", "0 0 0/0 0 0/0 0 0");
+    full();
+    x.unit(0, 2);
+    widened("unit", "1 0 0/0 1 0/0 0 0");
+    full();
+    set(1, "1 2");
+    x.copy(1, 0);
+    widened("copy", "1 2 0/0 0 0");
+    full();
+    x.swap(0, 1);
+    widened("swap", "1 2 0/0 0 0");
+    full();
+    x.drop(0, false, 3);
+    x.flip(0);
+    x.drop(0, false, 0);
+    widened("flip", "9 9 9 0/9 9 9 0/9 9 9 0/0 0 0 0");
+    x = new Gridmender();
+    full();
+    set(1, "1 2");
+    x.sum(1, 1, false, 0);
+    widened("sum", "2 4 0/0 0 0");
+    full();
+    set(2, "3/4");
+    x.multiply(1, 2, 0);
+    widened("multiply", "11 0/0 0");
+    full();
+    x.take(1, 2, 0);
+    widened("take", "1 0 0/0 0 0");
+    full();
+    x.solve(2, 2, 0, 0);
+    widened("solve", "1 0/0 0");
+  }
+
   @Says(at = "Promise 12: widen", words = "Returns how many there are then; REFUSED, if there are 4.")
   void widenUpTo4() {
     for (int lines = 2; lines <= 4; lines++) {
@@ -581,9 +628,11 @@ final class ActsSentences extends Sentences {
   void sumRefuses() {
     x.make(0, 2, 3);
     x.make(1, 3, 3);
-    isRefused("sum(0, 1, false, 2) of unlike ROWS", () -> x.sum(0, 1, false, 2));
+    isRefused("sum(0, 1, false, 2) of more ROWS", () -> x.sum(0, 1, false, 2));
+    isRefused("sum(1, 0, false, 2) of fewer ROWS", () -> x.sum(1, 0, false, 2));
     x.make(1, 2, 2);
-    isRefused("sum(0, 1, true, 2) of unlike COLUMNS", () -> x.sum(0, 1, true, 2));
+    isRefused("sum(0, 1, true, 2) of fewer COLUMNS", () -> x.sum(0, 1, true, 2));
+    isRefused("sum(1, 0, true, 2) of more COLUMNS", () -> x.sum(1, 0, true, 2));
     x.make(1, 3, 2);
     isRefused("sum(0, 1, true, 2) of both unlike", () -> x.sum(0, 1, true, 2));
     x.make(1, 2, 3);

@@ -7,6 +7,10 @@ import java.util.List;
 /** Each sentence of the document that names a boundary case has a test of its own, in the classes of Sentences. */
 public final class BoundaryTest {
   public static void main(String[] args) throws IOException, ReflectiveOperationException {
+    run(Path.of(args[1], "DOC.md")).end();
+  }
+
+  static Checks run(Path document) throws IOException, ReflectiveOperationException {
     Checks checks = new Checks();
     List<Says> done = new ArrayList<>();
     Sentences[] all = {
@@ -17,10 +21,10 @@ public final class BoundaryTest {
       some.runAll(checks, done);
     }
     checks.part("the document");
-    String[] rows = Files.readString(Path.of(args[1], "DOC.md")).split("\n");
+    String[] rows = Files.readString(document).split("\n");
     standInTheDocument(checks, rows, done);
     allExceptionsAreTested(checks, rows, done);
-    checks.end();
+    return checks;
   }
 
   /** The words of each test are words of the document, under that heading. */

@@ -399,10 +399,13 @@ final class Model {
     return false;
   }
 
+  int lines(int table, boolean isColumn) {
+    return isColumn ? tables[table][0].length : tables[table].length;
+  }
+
   private boolean noLine(int table, boolean isColumn, int... all) {
-    int lines = isColumn ? tables[table][0].length : tables[table].length;
     for (int k : all) {
-      if (k < 0 || k >= lines) {
+      if (k < 0 || k >= lines(table, isColumn)) {
         return true;
       }
     }

@@ -3,7 +3,8 @@ import java.util.Random;
 /** Long runs of calls, each answer compared with the model; the seeds are fixed, so each run is the same again. */
 public final class ModelTest {
   private static final int RUNS = 1500;
-  private static final int CALLS = 512;
+  /** With digest() as the last one, as many as the document tells of. */
+  private static final int CALLS = 511;
 
   private final Random random;
   private final Gridmender x = new Gridmender();
@@ -53,7 +54,7 @@ public final class ModelTest {
   }
 
   private int lines(int table, boolean isColumn) {
-    return table < 0 || table > 3 ? 4 : x.shape(table, isColumn);
+    return table < 0 || table > 3 ? 4 : model.lines(table, isColumn);
   }
 
   private void call() {

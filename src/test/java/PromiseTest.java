@@ -887,6 +887,7 @@ public final class PromiseTest {
   private void isSound() {
     due("isSound()", true, () -> x.isSound());
     for (int i = 0; i < 200; i++) {
+      x = new Gridmender();
       int rows = 1 + i % 4;
       int columns = 1 + i / 4 % 4;
       sown(0, rows, columns, i * 327, i % 21);

@@ -32,6 +32,15 @@ final class TermsSentences extends Sentences {
     due("isSolvable(0, 1, 0, 1) of " + table + " and " + column, want, () -> x.isSolvable(0, 1, 0, 1));
   }
 
+  @Says(at = "Description", words = "SIZE of a number: it without its sign.")
+  void sizeIsWithoutTheSign() {
+    stepsTo("2/-1", "1/0", "0 -1/1 2");
+    stepsTo("-2/1", "1/0", "0 1/1 2");
+    stepsTo("-1/2", "1/0", "-1 0/2 1");
+    goesTo("20 -4", "4 0", "-1", "0 1/1 5");
+    goesTo("-20 4", "4 0", "1", "0 1/1 5");
+  }
+
   @Says(at = "Description", words = "0 divides 0 alone")
   void nullDividesNullAlone() {
     solvable("0", "0", true);
