@@ -253,6 +253,7 @@ final class StepsSentences extends Sentences {
   void greatestNumberOfL() {
     greatSteps(Tables.STEPS_L_1000000000, false);
     greatSteps(Tables.STEPS_L_1000000001, true);
+    greatSteps(Tables.STEPS_GREAT_OF_3_ROWS, true);
   }
 
   @Says(at = "4. The diagonal", words = "GREAT is as in section 3, of W, L and R, behind each change of a ROW or a COLUMN.")

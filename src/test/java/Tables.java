@@ -18,8 +18,8 @@ final class Tables {
   static final String STEPS_R_999999985 = "-9 11 -10 -9/-9 -20 -7 -19/-19 -7 5 -4/20 0 5 -12";
   static final String STEPS_R_1000000019 = "18 7 -2 -6/13 -13 17 1/9 18 -14 3/-15 -16 -18 -17";
   static final String STEPS_R_1432300058 = "10 -20 1 -14/8 11 6 17/-8 -1 11 19/15 -16 2 -20";
-  // GREAT by L, though it has three ROWS and three COLUMNS.
-  static final String STEPS_GREAT_OF_3_ROWS = "-2 -19 -5/-15 -16 15/-10 -5 -17";
+  // GREAT by L, though it has three ROWS and three COLUMNS: here by a number above 0, in the one above by one below 0.
+  static final String STEPS_GREAT_OF_3_ROWS = "13 19 -16/-8 -2 -11/-8 19 -6";
   // STEPS that are not GREAT: by the SOLUTION named, Y has a number of just that SIZE.
   static final String STEPS_Y_1000000000 = "-10 -14 -14 15/-3 17 18 -13/13 17 18 18/-19 -2 13 19";
   static final String SOLUTION_OF_Y_1000000000 = "1/-1/0/0";
