@@ -258,8 +258,8 @@ final class StepsSentences extends Sentences {
 
   @Says(at = "4. The diagonal", words = "GREAT is as in section 3, of W, L and R, behind each change of a ROW or a COLUMN.")
   void greatestNumberOfR() {
-    greatSteps(Tables.STEPS_R_999999985, false);
-    greatSteps(Tables.STEPS_R_1000000019, true);
+    greatSteps(Tables.STEPS_R_999999995, false);
+    greatSteps(Tables.STEPS_R_1000000012, true);
     greatSteps(Tables.STEPS_R_1432300058, true);
   }
 
@@ -269,8 +269,8 @@ final class StepsSentences extends Sentences {
     due("the greatest SIZE in the LEFT CHANGE", 1000000000, () -> greatestSize(form(0, 3)));
     set(0, Tables.ROW_STEPS_C_1000000000);
     due("the greatest SIZE in the ROW CHANGE", 1000000000, () -> greatestSize(form(0, 1)));
-    set(0, Tables.STEPS_R_999999985);
-    due("the greatest SIZE in the RIGHT CHANGE", 999999985, () -> greatestSize(form(0, 4)));
+    set(0, Tables.STEPS_R_999999995);
+    due("the greatest SIZE in the RIGHT CHANGE", 999999995, () -> greatestSize(form(0, 4)));
   }
 
   private static int greatestSize(String text) {

@@ -15,8 +15,8 @@ final class Tables {
   // STEPS: the greatest SIZE in L (in R) is the one named; in W and the other one all are smaller.
   static final String STEPS_L_1000000000 = "-17 6 -3 -19/3 5 6 -10/15 20 -11 -16/-2 17 -20 5";
   static final String STEPS_L_1000000001 = "-13 16 -10 6/-7 18 6 -19/-8 18 2 11/-14 19 12 -10";
-  static final String STEPS_R_999999985 = "-9 11 -10 -9/-9 -20 -7 -19/-19 -7 5 -4/20 0 5 -12";
-  static final String STEPS_R_1000000019 = "18 7 -2 -6/13 -13 17 1/9 18 -14 3/-15 -16 -18 -17";
+  static final String STEPS_R_999999995 = "0 12 -2 -20/6 -6 20 7/-1 -9 16 18/14 20 19 16";
+  static final String STEPS_R_1000000012 = "17 16 5 -19/3 10 8 -2/13 -14 6 1/-12 -20 -4 -17";
   static final String STEPS_R_1432300058 = "10 -20 1 -14/8 11 6 17/-8 -1 11 19/15 -16 2 -20";
   // GREAT by L, though it has three ROWS and three COLUMNS: here by a number above 0, in the one above by one below 0.
   static final String STEPS_GREAT_OF_3_ROWS = "13 19 -16/-8 -2 -11/-8 19 -6";

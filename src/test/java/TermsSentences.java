@@ -130,7 +130,7 @@ final class TermsSentences extends Sentences {
     isRefused("take(0, 0, 0)", () -> x.take(0, 0, 0));
     isRefused("take(0, 2, 3)", () -> x.take(0, 2, 3));
     isRefused("solve(0, 1, 0, 3)", () -> x.solve(0, 1, 0, 3));
-    isRefused("solve(0, 0, 0, 4 of 1)", () -> x.solve(1, 0, 0, 3));
+    isRefused("solve(1, 0, 0, 3)", () -> x.solve(1, 0, 0, 3));
     due("house(1)", 12, () -> x.house(1));
   }
 

@@ -79,7 +79,6 @@ final class WholeSentences extends Sentences {
     set(0, Tables.ROW_STEPS_GREAT_BUT_NOT_STEPS);
     due("isSolvable(0, 1, 0, 0) of GREAT ROW STEPS", true, () -> x.isSolvable(0, 1, 0, 0));
     set(0, Tables.STEPS_Y_1000000001);
-    x.multiply(0, 1, 1);
     set(2, Tables.SOLUTION_OF_Y_1000000001);
     x.multiply(0, 2, 1);
     due("isSolvable(0, 1, 0, 0) of a GREAT number of Y", true, () -> x.isSolvable(0, 1, 0, 0));
@@ -294,7 +293,7 @@ final class WholeSentences extends Sentences {
     due("house(1)", 0, () -> x.house(1));
     x.drop(0, false, 0);
     due("house(1)", 1, () -> x.house(1));
-    x.drop(0, false, 1 - 1);
+    x.drop(0, true, 0);
     due("house(1)", 2, () -> x.house(1));
     isThrown("drop(0, false, 1)", INDEX, () -> x.drop(0, false, 1));
     isDone("widen(0, false)", 2, () -> x.widen(0, false));
